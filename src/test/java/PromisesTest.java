@@ -87,7 +87,11 @@ public final class PromisesTest {
         Check.same("later than FROM", b.count(14), 2);
         b.become(0, 0, 0);
         Check.same("LATE ones: 0 is none", b.count(12), 0);
+        Check.same("the latest: 0 without", b.count(13), 0);
         Check.same("later than FROM, if not LATE", b.count(14), 1);
+        b.become(0, 0, 1);
+        Check.same("LATE by 1", b.count(12), 1);
+        Check.same("the latest by 1", b.count(13), 1);
         b.feed(0, 0, 0, 0, 0);
         Check.same("bytes", b.count(8), 20);
         Check.missing("count(15)", () -> b.count(15));
@@ -257,6 +261,23 @@ public final class PromisesTest {
             Check.same("the latest ones", b.lesson(0, 3), left);
         }
         Check.same("the first one isn't kept", b.undo(), NONE);
+        MarshBells mixed = Check.told(ROW + "rule 1;");
+        for (int round = 0; round < 11; round++) {
+            mixed.become(round % 3, 0, round);
+            mixed.become((round + 1) % 3, 1, round);
+            mixed.obey(round % 2 - 1);
+            mixed.become((round + 2) % 3, 2, round % 10);
+        }
+        for (int left = 39; left >= 0; left--) {
+            Check.same("left of 40 mixed", mixed.undo(), left);
+        }
+        int[][] then = {{0, 0, 0}, {0, 0, 0}, {0, 0, 0}};
+        for (int i = 0; i < 3; i++) {
+            Check.same("OVER then " + i, mixed.lesson(i, 3), then[i][0]);
+            Check.same("GAP then " + i, mixed.lesson(i, 11), then[i][1]);
+            Check.same("ROOM then " + i, mixed.lesson(i, 4), then[i][2]);
+        }
+        Check.same("RULE then", mixed.count(2), NONE);
     }
 
     private static void fars() {
@@ -314,6 +335,7 @@ public final class PromisesTest {
         Check.same("slack of the last", b.slack(1), 120);
         MarshBells row = Check.told(ROW);
         Check.same("slack of none", row.slack(0), 0);
+        Check.same("slack of 1", Check.told("lesson 0 9 9 0 0 1;lesson 10 20 10 0 0 1 all 0;").slack(0), 1);
         MarshBells ruled = Check.told(ROW + "rule (over<50)*over;rule over*20;");
         ruled.obey(0);
         Check.same("more that does less: the greatest", ruled.slack(0), 120);
@@ -349,6 +371,26 @@ public final class PromisesTest {
         Check.same("its own too, if it isn't in the set", b.gaps(2, 1, 7), 2);
         b.become(2, 1, 5);
         Check.same("its own then", b.gap(2), 7);
+        // One that has nothing to do with it stands between, and one of the set is behind it.
+        MarshBells apart = Check.told("lesson 0 10 10 4 0 1;lesson 0 10 10 4 0 1;lesson 10 20 10 0 0 2 all 1;"
+            + "lesson 10 20 10 0 0 2 all 0 gap 9;lesson 20 30 10 0 0 2 all 2 gap 8;");
+        Check.same("apart", apart.gaps(31, 4, 1), 3);
+        int[] row = {0, 0, 0, 0, 3};
+        Check.same("apart: another", apart.gaps(29, 2, 1), 3);
+        int[] other = {0, 0, 3, 0, 0};
+        for (int i = 0; i < 5; i++) {
+            Check.same("apart: gap " + i, apart.gap(i), other[i]);
+        }
+        Check.same("apart again", apart.gaps(31, 4, 1), 3);
+        for (int i = 0; i < 5; i++) {
+            Check.same("apart again: gap " + i, apart.gap(i), row[i]);
+        }
+        Check.same("GAPS stay as they are", apart.lesson(4, 11), 8);
+        // A rule by which a smaller gap does nothing and a greater one does.
+        MarshBells odd = Check.told(ROW + "rule over+(lesson=1 and not late=2)*9;");
+        odd.obey(0);
+        Check.same("by a rule", odd.gaps(6, 1, 4), 2);
+        Check.same("by a rule: the gap", odd.gap(1), 2);
         MarshBells six = Check.told("lesson 0 5 1 0 0 1;".repeat(6));
         Check.same("five", six.gaps(31, 0, 0), 0);
         Check.illegal("six", () -> six.gaps(63, 0, 0));
@@ -380,6 +422,15 @@ public final class PromisesTest {
         Check.same("so many tenths", ruled.chance(0, 6, 1), 5);
         Check.same("never", ruled.chance(1, 0, 0), 0);
         Check.same("all else doesn't ask MAYBE", ruled.count(7), 14);
+        MarshBells tenths = Check.told("lesson 0 10 1 1 0 1 maybe 1;lesson 0 10 1 1 0 1 maybe 9;lesson 0 10 1 1 0 1 maybe 10;");
+        Check.same("1 tenth", tenths.chance(0, 0, 0), 1);
+        Check.same("9 tenths", tenths.chance(1, 0, 0), 9);
+        Check.same("10 tenths", tenths.chance(2, 0, 0), 1);
+        Check.same("10 tenths: in lowest terms", tenths.chance(2, 0, 1), 1);
+        Check.tell(tenths, "lesson 0 10 1 1 0 1 maybe 0;");
+        Check.same("0 tenths", tenths.chance(0, 0, 0), 0);
+        Check.tell(tenths, "lesson 0 10 1 1 0 1 maybe 2;");
+        Check.same("2 tenths behind 0", tenths.chance(0, 0, 1), 5);
         Check.illegal("late -1", () -> b.chance(0, -1, 0));
         Check.illegal("late 1000", () -> b.chance(0, 1000, 0));
         Check.missing("what 2, ahead", () -> b.chance(0, -1, 2));
@@ -396,6 +447,10 @@ public final class PromisesTest {
         Check.same("mean of 5 by a half, lower part", b.mean(0, 1), 2);
         Check.same("mean of none, upper part", b.mean(3, 0), 0);
         Check.same("mean of none, lower part", b.mean(3, 1), 1);
+        MarshBells anyway = Check.told("lesson 0 10 13 4 0 1 maybe 5;");
+        Check.same("mean of 3 and 7", anyway.mean(0, 0), 5);
+        Check.same("mean of 3 and 7, lower part", anyway.mean(0, 1), 1);
+        Check.same("LATE anyway", anyway.chance(0, 2, 0), 1);
         Check.missing("what 2", () -> b.mean(0, 2));
         Check.missing("what -1", () -> b.mean(0, -1));
     }
@@ -426,6 +481,7 @@ public final class PromisesTest {
         b.become(1, 3, 0);
         Check.same("of like ones the least", b.room(0, 0), 0);
         Check.same("nothing stays of it", b.lesson(1, 4), 3);
+        Check.same("the last room", Check.told("lesson 0 10 10 5 9 1;lesson 10 20 10 0 3 2 all 0;").room(1, 0), 9);
         Check.missing("what 2", () -> b.room(0, 2));
         Check.missing("what -1", () -> b.room(0, -1));
     }
@@ -437,6 +493,9 @@ public final class PromisesTest {
         b.obey(0);
         Check.same("as long as it does less", b.limit(1, 0), 4);
         Check.same("LOST then", b.limit(1, 1), 5);
+        MarshBells longest = Check.told("walk 0;lesson 0 99 9 0 0 1;lesson 0 120 1 0 3 2 all 0;rule lesson*(99-late);");
+        longest.obey(0);
+        Check.same("as long as can be", longest.limit(1, 0), 99);
         Check.same("nothing stays of it", b.lesson(1, 9), 99);
         Check.missing("what 2", () -> b.limit(0, 2));
         Check.missing("what -1", () -> b.limit(0, -1));
@@ -446,6 +505,14 @@ public final class PromisesTest {
         Check.same("last", Check.told(Check.THREE).last(), 0);
         Check.same("last of like ones", Check.told("lesson 0 5 1 0 0 1;lesson 0 5 1 0 0 2;").last(), 0);
         Check.same("last by people", Check.told("lesson 0 5 1 9 0 1;lesson 0 5 1 5 0 2;").last(), 1);
+        MarshBells again = Check.told(Check.THREE + "rule 9;");
+        Check.same("one after another: pair", again.pair(0), 2);
+        Check.same("one after another: last", again.last(), 0);
+        Check.same("one after another: pair again", again.pair(0), 2);
+        Check.same("one after another: best", again.best(), NONE);
+        Check.same("one after another: pair once more", again.pair(0), 2);
+        Check.same("one after another: swap", again.swap(0), 1);
+        Check.same("one after another: pause", again.pause(1, 1), 280);
     }
 
     private static void rules() {
@@ -541,6 +608,9 @@ public final class PromisesTest {
         MarshBells many = Check.told("walk 1;stair 1;lesson 0 10 1 0 0 3;lesson 0 10 1 0 9 3;"
             + "lesson 20 30 1 0 9 1 all 0;lesson 20 30 1 0 8 1 all 0;lesson 20 30 1 0 1 1 all 1;");
         Check.same("each couple", many.streams(), 2);
+        Check.same("each couple again", many.streams(), 2);
+        many.become(2, 2, 0);
+        Check.same("one couple less", many.streams(), 1);
     }
 
     private static void terms() {
@@ -555,6 +625,8 @@ public final class PromisesTest {
         Check.same("one day: the most", b.term(1, 1, 0, 1), 3);
         Check.same("one day: LATE", b.term(1, 1, 0, 2), 0);
         Check.same("no day", b.term(7, 0, 1, 1), 0);
+        MarshBells edge = Check.told("lesson 0 10 1 1 0 2 maybe 3;lesson 0 10 1 0 0 1 maybe 5;");
+        Check.same("a draw that is no less; LATE by 1", edge.term(1, 5, 0, 2), 3);
         Check.same("sixty", b.term(-5, 60, 1, 2), 60);
         Check.same("nothing stays of it", b.count(7), 10 + 3 + 81);
         Check.illegal("61 days", () -> b.term(1, 61, 0, 0));
@@ -727,6 +799,9 @@ public final class PromisesTest {
             Check.same("GAPS that are kept stay", b.gap(0), 0);
             Check.same("undo as then", b.undo(), 2);
             Check.same("undo as then: the RULE", b.count(2), NONE);
+            Check.same("undo as then: of another lesson", b.undo(), 1);
+            Check.same("undo as then: its GAP", b.lesson(1, 11), 0);
+            Check.same("SEEN as then", b.fits(1), 7);
             b.become(0, 0, 33);
         }
         b.image();

@@ -5,6 +5,7 @@ public final class TextsTest {
     public static void main(String[] args) {
         tape();
         houseAnew();
+        houseAfterHouse();
         tokens();
         lines();
         lessonNumbers();
@@ -94,6 +95,29 @@ public final class TextsTest {
         Check.same("STATUS 2 stays", bells.count(11), 1);
     }
 
+    /** What an earlier house told must not show through a later one. */
+    private static void houseAfterHouse() {
+        MarshBells bells = Check.told(L + "lesson 0 5 1 0 0 1;lesson 0 5 1 0 0 1 some 2 0 1 limit 3 maybe 4 gap 5;"
+            + "walk 2;stair 3;rule 1;rule 2;rule 3;");
+        for (int i = 0; i < 3; i++) {
+            Check.same("the same again", Check.tell(bells, L + L + L + "rule 40+over;"), 0);
+            int[] want = {0, 5, 1, 0, 0, 1, 2, 0, 0, 99, 10, 0};
+            for (int what = 0; what < 12; what++) {
+                Check.same("after others " + what, bells.lesson(2, what), want[what]);
+            }
+            Check.same("RULES after others", bells.count(1), 1);
+            Check.same("WALK after others", bells.count(3), 1);
+            Check.same("STAIR after others", bells.count(4), 99);
+            bells.obey(0);
+            Check.same("its own rule", bells.day(0, 3), 40);
+            Check.same("all told at once", Check.tell(bells, L + L + "lesson 0 5 1 0 0 1 all 1;walk 9;rule 5;rule 6;"), 0);
+            Check.same("for whom it waits", bells.lesson(2, 8), 2);
+            bells.obey(1);
+            Check.same("the second rule", bells.day(0, 3), 6);
+            Check.same("a fault between", Check.tell(bells, L + L + "lesson 0 5 1 0 0 1 some 2 0 1;rule 1;walk x;"), 1);
+        }
+    }
+
     private static void tokens() {
         good("");
         good(" \n ");
@@ -108,6 +132,9 @@ public final class TextsTest {
         due("walk 1;\u00e9", 1, 7);
         due("walk 1:", 1, 6);
         due("walks 1;", 1, 0);
+        due("talk 1;", 1, 0);
+        due("wall 1;", 1, 0);
+        due("zalk 1;", 1, 0);
         due("wal k 1;", 1, 0);
         due("walk 00001;", 2, 5);
         due("walk", 1, 4);
@@ -249,6 +276,11 @@ public final class TextsTest {
         due("rule not or;", 3, 9);
         due("rule 1 and and 1;", 3, 11);
         due("rule overs;", 3, 5);
+        due("rule overz;", 3, 5);
+        due("rule overa;", 3, 5);
+        due("rule over{;", 1, 9);
+        due("rule over`;", 1, 9);
+        due("rule 1:;", 1, 6);
         due("rule 1 bell;", 1, 7);
         due("rule 1 not;", 1, 7);
         due("rule over late;", 1, 10);
