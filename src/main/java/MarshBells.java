@@ -1074,14 +1074,15 @@ public final class MarshBells {
         private void begin(int i, Lesson lesson) {
             begins[i] = lesson.from;
             byWhom[i] = NONE;
-            if (lesson.waited == 0) {
-                return;
-            }
+            int due = lesson.from;
             for (int k = 0; k < lesson.waited; k++) {
                 int from = lesson.waitedFor[k];
                 comings[k] = ends[from] + way(from, i) - held.gaps[i];
+                due = Math.max(due, comings[k]);
             }
-            int due = lesson.sort == SOME ? comingOf(lesson.some, lesson.waited) : lastComing(lesson.waited);
+            if (lesson.sort == SOME) {
+                due = comingOf(lesson.some, lesson.waited, due);
+            }
             if (due <= lesson.from) {
                 return;
             }
@@ -1106,32 +1107,19 @@ public final class MarshBells {
             return held.rooms[lesson] >= FIRST_ROOM_UPSTAIRS;
         }
 
-        private int lastComing(int waited) {
-            int latest = comings[0];
-            for (int k = 1; k < waited; k++) {
-                latest = Math.max(latest, comings[k]);
-            }
-            return latest;
-        }
-
-        private int comingOf(int some, int waited) {
-            int due = lastComing(waited);
+        /** The minute by which so many have come; all have by the last. */
+        private int comingOf(int many, int waited, int last) {
+            int due = last;
             for (int k = 0; k < waited; k++) {
-                if (comings[k] < due && comeBy(comings[k], waited) >= some) {
+                int come = 0;
+                for (int other = 0; other < waited; other++) {
+                    come += comings[other] <= comings[k] ? 1 : 0;
+                }
+                if (come >= many && comings[k] < due) {
                     due = comings[k];
                 }
             }
             return due;
-        }
-
-        private int comeBy(int minute, int waited) {
-            int come = 0;
-            for (int k = 0; k < waited; k++) {
-                if (comings[k] <= minute) {
-                    come++;
-                }
-            }
-            return come;
         }
 
         private int firstComingAt(int due, Lesson lesson) {
@@ -1601,7 +1589,6 @@ public final class MarshBells {
                     tryFrom(lesson + 1, minutes + gap);
                 }
             }
-            held.gaps[lesson] = 0;
         }
 
         private void takeIfOnTime(int minutes) {

@@ -261,23 +261,30 @@ public final class PromisesTest {
             Check.same("the latest ones", b.lesson(0, 3), left);
         }
         Check.same("the first one isn't kept", b.undo(), NONE);
-        MarshBells mixed = Check.told(ROW + "rule 1;");
-        for (int round = 0; round < 11; round++) {
-            mixed.become(round % 3, 0, round);
-            mixed.become((round + 1) % 3, 1, round);
-            mixed.obey(round % 2 - 1);
-            mixed.become((round + 2) % 3, 2, round % 10);
+        MarshBells mixed = Check.told(ROW + "rule 1;rule 2;");
+        String[] then = new String[44];
+        for (int n = 0; n < 43; n++) {
+            then[n] = state(mixed);
+            if (n % 5 == 4) {
+                mixed.obey(n % 3 - 1);
+            } else {
+                mixed.become(n % 3, n * n % 7 % 4, n % 10);
+            }
         }
         for (int left = 39; left >= 0; left--) {
             Check.same("left of 40 mixed", mixed.undo(), left);
+            Check.same("as then " + left, state(mixed).equals(then[left + 3]), true);
         }
-        int[][] then = {{0, 0, 0}, {0, 0, 0}, {0, 0, 0}};
-        for (int i = 0; i < 3; i++) {
-            Check.same("OVER then " + i, mixed.lesson(i, 3), then[i][0]);
-            Check.same("GAP then " + i, mixed.lesson(i, 11), then[i][1]);
-            Check.same("ROOM then " + i, mixed.lesson(i, 4), then[i][2]);
+    }
+
+    private static String state(MarshBells b) {
+        StringBuilder all = new StringBuilder().append(b.count(2));
+        for (int lesson = 0; lesson < b.count(0); lesson++) {
+            for (int what = 3; what < 12; what++) {
+                all.append(' ').append(b.lesson(lesson, what));
+            }
         }
-        Check.same("RULE then", mixed.count(2), NONE);
+        return all.toString();
     }
 
     private static void fars() {
@@ -611,6 +618,18 @@ public final class PromisesTest {
         Check.same("each couple again", many.streams(), 2);
         many.become(2, 2, 0);
         Check.same("one couple less", many.streams(), 1);
+        StringBuilder full = new StringBuilder("walk 0;stair 1;");
+        for (int i = 0; i < 12; i++) {
+            full.append("lesson 0 10 1 0 ").append(i % 2 * 9).append(" 9").append(i == 0 ? "" : " all");
+            for (int k = 1; k <= 6 && k <= i; k++) {
+                full.append(' ').append(i - k);
+            }
+            full.append(i == 0 ? ";" : " limit 0;");
+        }
+        // Of the ways to lesson i every other one: 1 1 2 2 3 3 3 .. 3, 27 in all, 15 of them up.
+        MarshBells most = Check.told(full.toString());
+        Check.same("on the stair at once", most.on(10, 1), 27 * 9);
+        Check.same("each couple of very many", most.streams(), 15 * 12);
     }
 
     private static void terms() {
@@ -801,7 +820,7 @@ public final class PromisesTest {
             Check.same("undo as then: the RULE", b.count(2), NONE);
             Check.same("undo as then: of another lesson", b.undo(), 1);
             Check.same("undo as then: its GAP", b.lesson(1, 11), 0);
-            Check.same("SEEN as then", b.fits(1), 7);
+            Check.same("SEEN as then", b.fits(0), 1 + 31 + 31);
             b.become(0, 0, 33);
         }
         b.image();
