@@ -1,5 +1,8 @@
+import java.io.IOException;
 import java.nio.ByteBuffer;
 import java.nio.charset.StandardCharsets;
+import java.nio.file.Files;
+import java.nio.file.Path;
 import java.util.Arrays;
 import java.util.NoSuchElementException;
 
@@ -9,10 +12,38 @@ final class Check {
     static final String THREE = "lesson 0 45 40 9 1 20;lesson 50 95 40 0 7 10 all 0;"
         + "lesson 50 95 40 5 2 8 some 1 0 1 limit 3;walk 1;stair 10;";
 
+    private static final String DOCUMENT = document();
+
     private static int wrong = 0;
     private static int asked = 0;
+    private static int sentences = 0;
+    private static String sentence = "";
 
     private Check() {
+    }
+
+    private static String document() {
+        try {
+            return Files.readString(Path.of("../shared/DOC.md"));
+        } catch (IOException e) {
+            return "";
+        }
+    }
+
+    /** One sentence of the document, in its words, and a test of its own: new objects alone are asked in it. */
+    static void sentence(String words, Runnable test) {
+        sentence = "'" + words + "': ";
+        sentences++;
+        if (!DOCUMENT.contains(words)) {
+            System.out.println("(not, or no more, in the document's words: " + words + ")");
+        }
+        try {
+            test.run();
+        } catch (RuntimeException e) {
+            wrong++;
+            System.out.println(sentence + "threw " + e);
+        }
+        sentence = "";
     }
 
     static void feed(MarshBells bells, String text) {
@@ -41,11 +72,28 @@ final class Check {
         return bells;
     }
 
+    /** The text has this fault at this place, and is counted for it. */
+    static void refused(String text, int fault, int place) {
+        MarshBells bells = new MarshBells();
+        same("house '" + text + "'", tell(bells, text), fault);
+        same("fault of '" + text + "'", bells.fault(), place);
+        same("STATUS 0 of '" + text + "'", bells.count(9), fault == 0 ? 0 : 1);
+    }
+
+    static void taken(String text) {
+        refused(text, 0, MarshBells.NONE);
+    }
+
+    /** What a rule gives for that one lesson, kept to 0 to 60. */
+    static void given(String rule, int want) {
+        same("rule " + rule, ruled(rule).day(0, 3), want);
+    }
+
     static void same(String what, long got, long want) {
         asked++;
         if (got != want) {
             wrong++;
-            System.out.println(what + " answered " + got + ", due is " + want);
+            System.out.println(sentence + what + " answered " + got + ", due is " + want);
         }
     }
 
@@ -70,8 +118,30 @@ final class Check {
         }
     }
 
+    /** The house and its day, without the tape and STATUS. */
+    static String state(MarshBells b) {
+        StringBuilder all = new StringBuilder();
+        for (int what : new int[] {0, 1, 2, 3, 4, 5, 6, 7, 12, 13, 14}) {
+            all.append(b.count(what)).append(' ');
+        }
+        for (int lesson = 0; lesson < b.count(0); lesson++) {
+            for (int what = 0; what < 12; what++) {
+                all.append(b.lesson(lesson, what)).append(' ');
+            }
+            for (int what = 0; what < 5; what++) {
+                all.append(b.day(lesson, what)).append(' ');
+            }
+        }
+        return all.toString();
+    }
+
+    static String all(MarshBells b) {
+        return state(b) + b.count(8) + ' ' + b.count(9) + ' ' + b.count(10) + ' ' + b.count(11);
+    }
+
     static void end() {
-        System.out.println(asked + " answers, " + wrong + " not as due");
+        String of = sentences == 0 ? "" : " of " + sentences + " sentences";
+        System.out.println(asked + " answers" + of + ", " + wrong + " not as due");
         if (wrong != 0) {
             System.exit(1);
         }

@@ -18,18 +18,6 @@ public final class TextsTest {
         Check.end();
     }
 
-    /** The text has this fault at this place; 0 with NONE: it has none. */
-    private static void due(String text, int fault, int place) {
-        MarshBells bells = new MarshBells();
-        Check.same("house '" + text + "'", Check.tell(bells, text), fault);
-        Check.same("fault of '" + text + "'", bells.fault(), place);
-        Check.same("STATUS 0 of '" + text + "'", bells.count(9), fault == 0 ? 0 : 1);
-    }
-
-    private static void good(String text) {
-        due(text, 0, MarshBells.NONE);
-    }
-
     private static void tape() {
         MarshBells bells = new MarshBells();
         for (int i = 1; i <= 35; i++) {
@@ -119,234 +107,230 @@ public final class TextsTest {
     }
 
     private static void tokens() {
-        good("");
-        good(" \n ");
-        good("walk\n1\n;\n");
-        good("walk1;stair0099;");
-        good("lesson 0 05 0001 00 0 1;");
-        good(L + "lesson0 5 1 0 0 1all0limit2;");
-        good("rule not(over)and 1or 2;");
-        due("walk\t1;", 1, 4);
-        due("walk 1;\r", 1, 7);
-        due("Walk 1;", 1, 0);
-        due("walk 1;\u00e9", 1, 7);
-        due("walk 1:", 1, 6);
-        due("walks 1;", 1, 0);
-        due("talk 1;", 1, 0);
-        due("wall 1;", 1, 0);
-        due("zalk 1;", 1, 0);
-        due("wal k 1;", 1, 0);
-        due("walk 00001;", 2, 5);
-        due("walk", 1, 4);
-        due("walk   ", 1, 7);
-        due("walk 1 ", 1, 7);
-        due("rule 1 +  ", 1, 10);
-        due("walk 1 2;", 1, 7);
-        due("walk 1 12345;", 1, 7);
-        due("walk ;", 1, 5);
-        due("walk x;", 1, 5);
-        due("rule 99999;", 2, 5);
-        good("rule 9999;");
-        due("rule 1 99999;", 1, 7);
+        Check.taken("");
+        Check.taken(" \n ");
+        Check.taken("walk\n1\n;\n");
+        Check.taken("walk1;stair0099;");
+        Check.taken("lesson 0 05 0001 00 0 1;");
+        Check.taken(L + "lesson0 5 1 0 0 1all0limit2;");
+        Check.taken("rule not(over)and 1or 2;");
+        Check.refused("walk\t1;", 1, 4);
+        Check.refused("walk 1;\r", 1, 7);
+        Check.refused("Walk 1;", 1, 0);
+        Check.refused("walk 1;\u00e9", 1, 7);
+        Check.refused("walk 1:", 1, 6);
+        Check.refused("walks 1;", 1, 0);
+        Check.refused("talk 1;", 1, 0);
+        Check.refused("wall 1;", 1, 0);
+        Check.refused("zalk 1;", 1, 0);
+        Check.refused("wal k 1;", 1, 0);
+        Check.refused("walk 00001;", 2, 5);
+        Check.refused("walk", 1, 4);
+        Check.refused("walk   ", 1, 7);
+        Check.refused("walk 1 ", 1, 7);
+        Check.refused("rule 1 +  ", 1, 10);
+        Check.refused("walk 1 2;", 1, 7);
+        Check.refused("walk 1 12345;", 1, 7);
+        Check.refused("walk ;", 1, 5);
+        Check.refused("walk x;", 1, 5);
+        Check.refused("rule 99999;", 2, 5);
+        Check.taken("rule 9999;");
+        Check.refused("rule 1 99999;", 1, 7);
     }
 
     private static void lines() {
-        good("walk 0;stair 1;");
-        good("walk 9;stair 99;");
-        due("walk 10;", 2, 5);
-        due("stair 0;", 2, 6);
-        due("stair 100;", 2, 6);
-        due("walk 1;stair 2;walk 1;", 5, 15);
-        due("stair 2;walk 1;stair x;", 5, 15);
-        due(";", 1, 0);
-        due("12;", 1, 0);
-        due("all 0;", 1, 0);
-        due("over;", 1, 0);
-        due("walk 1;;", 1, 7);
+        Check.taken("walk 0;stair 1;");
+        Check.taken("walk 9;stair 99;");
+        Check.refused("walk 10;", 2, 5);
+        Check.refused("stair 0;", 2, 6);
+        Check.refused("stair 100;", 2, 6);
+        Check.refused("walk 1;stair 2;walk 1;", 5, 15);
+        Check.refused("stair 2;walk 1;stair x;", 5, 15);
+        Check.refused(";", 1, 0);
+        Check.refused("12;", 1, 0);
+        Check.refused("all 0;", 1, 0);
+        Check.refused("over;", 1, 0);
+        Check.refused("walk 1;;", 1, 7);
     }
 
     private static void lessonNumbers() {
-        good("lesson 0 1 1 0 0 1;");
-        good("lesson 998 999 200 60 9 99;");
-        due("lesson 999 999 1 0 0 1;", 2, 11);
-        due("lesson 1000 1 1 0 0 1;", 2, 7);
-        due("lesson 5 4 1 0 0 1;", 2, 9);
-        due("lesson 5 5 1 0 0 1;", 2, 9);
-        due("lesson 0 5 201 0 0 1;", 2, 11);
-        due("lesson 0 5 0 0 0 1;", 2, 11);
-        due("lesson 0 5 1 61 0 1;", 2, 13);
-        due("lesson 0 5 1 0 10 1;", 2, 15);
-        due("lesson 0 5 1 0 0 0;", 2, 17);
-        due("lesson 0 5 1 0 0 100;", 2, 17);
-        due("lesson all;", 1, 7);
-        due("lesson 0 5 1 0 0 1 2;", 1, 19);
-        due("lesson 0 5 1 0 0 1 over 2;", 1, 19);
-        good("lesson 0 5 1 0 0 1 limit 99 maybe 10 gap 30;");
-        good("lesson 0 5 1 0 0 1 limit 0 maybe 0 gap 0;");
-        due("lesson 0 5 1 0 0 1 limit 100;", 2, 25);
-        due("lesson 0 5 1 0 0 1 maybe 11;", 2, 25);
-        due("lesson 0 5 1 0 0 1 gap 31;", 2, 23);
-        due("lesson 0 5 1 0 0 1 limit;", 1, 24);
-        due("lesson 0 5 1 0 0 1 maybe 1 limit 2;", 1, 27);
-        due("lesson 0 5 1 0 0 1 gap 1 maybe 2;", 1, 25);
-        due("lesson 0 5 1 0 0 1 limit 1 limit 2;", 1, 27);
-        due(L + "lesson 0 5 1 0 0 1 limit 2 all 0;", 1, 19 + 27);
+        Check.taken("lesson 0 1 1 0 0 1;");
+        Check.taken("lesson 998 999 200 60 9 99;");
+        Check.refused("lesson 999 999 1 0 0 1;", 2, 11);
+        Check.refused("lesson 1000 1 1 0 0 1;", 2, 7);
+        Check.refused("lesson 5 4 1 0 0 1;", 2, 9);
+        Check.refused("lesson 5 5 1 0 0 1;", 2, 9);
+        Check.refused("lesson 0 5 201 0 0 1;", 2, 11);
+        Check.refused("lesson 0 5 0 0 0 1;", 2, 11);
+        Check.refused("lesson 0 5 1 61 0 1;", 2, 13);
+        Check.refused("lesson 0 5 1 0 10 1;", 2, 15);
+        Check.refused("lesson 0 5 1 0 0 0;", 2, 17);
+        Check.refused("lesson 0 5 1 0 0 100;", 2, 17);
+        Check.refused("lesson all;", 1, 7);
+        Check.refused("lesson 0 5 1 0 0 1 2;", 1, 19);
+        Check.refused("lesson 0 5 1 0 0 1 over 2;", 1, 19);
+        Check.taken("lesson 0 5 1 0 0 1 limit 99 maybe 10 gap 30;");
+        Check.taken("lesson 0 5 1 0 0 1 limit 0 maybe 0 gap 0;");
+        Check.refused("lesson 0 5 1 0 0 1 limit 100;", 2, 25);
+        Check.refused("lesson 0 5 1 0 0 1 maybe 11;", 2, 25);
+        Check.refused("lesson 0 5 1 0 0 1 gap 31;", 2, 23);
+        Check.refused("lesson 0 5 1 0 0 1 limit;", 1, 24);
+        Check.refused("lesson 0 5 1 0 0 1 maybe 1 limit 2;", 1, 27);
+        Check.refused("lesson 0 5 1 0 0 1 gap 1 maybe 2;", 1, 25);
+        Check.refused("lesson 0 5 1 0 0 1 limit 1 limit 2;", 1, 27);
+        Check.refused(L + "lesson 0 5 1 0 0 1 limit 2 all 0;", 1, 19 + 27);
     }
 
     private static void waiting() {
-        good(L + "lesson 0 5 1 0 0 1 all 0;");
-        good(L + L + "lesson 0 5 1 0 0 1 all 1 0;");
-        due("lesson 0 5 1 0 0 1 all 0;", 3, 23);
-        due(L + "lesson 0 5 1 0 0 1 all 1;", 3, 19 + 23);
-        due(L + "lesson 0 5 1 0 0 1 all 9999;", 3, 19 + 23);
-        due(L + "lesson 0 5 1 0 0 1 all 12345;", 2, 19 + 23);
-        due(L + "lesson 0 5 1 0 0 1 all 0 0;", 4, 19 + 25);
-        due(L + "lesson 0 5 1 0 0 1 all 0 00;", 4, 19 + 25);
-        due(L + "lesson 0 5 1 0 0 1 all;", 1, 19 + 22);
-        due(L + "lesson 0 5 1 0 0 1 all limit 3;", 1, 19 + 23);
-        due(L + "lesson 0 5 1 0 0 1 all 0 all 0;", 1, 19 + 25);
-        due(L + "lesson 0 5 1 0 0 1 all 0 some 1 0;", 1, 19 + 25);
-        due(L + "lesson 0 5 1 0 0 1 all", 1, 19 + 22);
+        Check.taken(L + "lesson 0 5 1 0 0 1 all 0;");
+        Check.taken(L + L + "lesson 0 5 1 0 0 1 all 1 0;");
+        Check.refused("lesson 0 5 1 0 0 1 all 0;", 3, 23);
+        Check.refused(L + "lesson 0 5 1 0 0 1 all 1;", 3, 19 + 23);
+        Check.refused(L + "lesson 0 5 1 0 0 1 all 9999;", 3, 19 + 23);
+        Check.refused(L + "lesson 0 5 1 0 0 1 all 12345;", 2, 19 + 23);
+        Check.refused(L + "lesson 0 5 1 0 0 1 all 0 0;", 4, 19 + 25);
+        Check.refused(L + "lesson 0 5 1 0 0 1 all 0 00;", 4, 19 + 25);
+        Check.refused(L + "lesson 0 5 1 0 0 1 all;", 1, 19 + 22);
+        Check.refused(L + "lesson 0 5 1 0 0 1 all limit 3;", 1, 19 + 23);
+        Check.refused(L + "lesson 0 5 1 0 0 1 all 0 all 0;", 1, 19 + 25);
+        Check.refused(L + "lesson 0 5 1 0 0 1 all 0 some 1 0;", 1, 19 + 25);
+        Check.refused(L + "lesson 0 5 1 0 0 1 all", 1, 19 + 22);
         String six = L + L + L + L + L + L + L;
-        good(six + "lesson 0 5 1 0 0 1 all 6 5 4 3 2 1;");
-        due(six + "lesson 0 5 1 0 0 1 all 6 5 4 3 2 1 0;", 2, 133 + 35);
-        due(six + "lesson 0 5 1 0 0 1 all 6 5 4 3 2 1 1;", 2, 133 + 35);
-        due(six + "lesson 0 5 1 0 0 1 all 6 5 4 3 2 1 9;", 2, 133 + 35);
+        Check.taken(six + "lesson 0 5 1 0 0 1 all 6 5 4 3 2 1;");
+        Check.refused(six + "lesson 0 5 1 0 0 1 all 6 5 4 3 2 1 0;", 2, 133 + 35);
+        Check.refused(six + "lesson 0 5 1 0 0 1 all 6 5 4 3 2 1 1;", 2, 133 + 35);
+        Check.refused(six + "lesson 0 5 1 0 0 1 all 6 5 4 3 2 1 9;", 2, 133 + 35);
     }
 
     private static void someOfMore() {
-        good(L + L + "lesson 0 5 1 0 0 1 some 2 0 1;");
-        good(L + L + "lesson 0 5 1 0 0 1 some 1 0 1 limit 4;");
-        due(L + "lesson 0 5 1 0 0 1 some;", 1, 19 + 23);
-        due(L + "lesson 0 5 1 0 0 1 some x;", 1, 19 + 24);
-        due(L + "lesson 0 5 1 0 0 1 some 0 0;", 2, 19 + 24);
-        due(L + "lesson 0 5 1 0 0 1 some 7 0;", 2, 19 + 24);
-        due(L + "lesson 0 5 1 0 0 1 some 2 0;", 6, 19 + 27);
-        due(L + "lesson 0 5 1 0 0 1 some 2 0 limit 3;", 6, 19 + 28);
-        due(L + "lesson 0 5 1 0 0 1 some 2 0 )", 6, 19 + 28);
-        due(L + "lesson 0 5 1 0 0 1 some 2 0 !", 6, 19 + 28);
-        due(L + "lesson 0 5 1 0 0 1 some 2 0 ", 6, 19 + 28);
-        due(L + "lesson 0 5 1 0 0 1 some 1;", 6, 19 + 25);
-        due(L + "lesson 0 5 1 0 0 1 some 2 0 0;", 4, 19 + 28);
-        due(L + "lesson 0 5 1 0 0 1 some 2 0 1;", 3, 19 + 28);
-        due(L + "lesson 0 5 1 0 0 1 some 2 0 12345;", 2, 19 + 28);
-        due(L + "lesson 0 5 1 0 0 1 some 1 0 )", 1, 19 + 28);
+        Check.taken(L + L + "lesson 0 5 1 0 0 1 some 2 0 1;");
+        Check.taken(L + L + "lesson 0 5 1 0 0 1 some 1 0 1 limit 4;");
+        Check.refused(L + "lesson 0 5 1 0 0 1 some;", 1, 19 + 23);
+        Check.refused(L + "lesson 0 5 1 0 0 1 some x;", 1, 19 + 24);
+        Check.refused(L + "lesson 0 5 1 0 0 1 some 0 0;", 2, 19 + 24);
+        Check.refused(L + "lesson 0 5 1 0 0 1 some 7 0;", 2, 19 + 24);
+        Check.refused(L + "lesson 0 5 1 0 0 1 some 2 0;", 6, 19 + 27);
+        Check.refused(L + "lesson 0 5 1 0 0 1 some 2 0 limit 3;", 6, 19 + 28);
+        Check.refused(L + "lesson 0 5 1 0 0 1 some 2 0 )", 6, 19 + 28);
+        Check.refused(L + "lesson 0 5 1 0 0 1 some 2 0 !", 6, 19 + 28);
+        Check.refused(L + "lesson 0 5 1 0 0 1 some 2 0 ", 6, 19 + 28);
+        Check.refused(L + "lesson 0 5 1 0 0 1 some 1;", 6, 19 + 25);
+        Check.refused(L + "lesson 0 5 1 0 0 1 some 2 0 0;", 4, 19 + 28);
+        Check.refused(L + "lesson 0 5 1 0 0 1 some 2 0 1;", 3, 19 + 28);
+        Check.refused(L + "lesson 0 5 1 0 0 1 some 2 0 12345;", 2, 19 + 28);
+        Check.refused(L + "lesson 0 5 1 0 0 1 some 1 0 )", 1, 19 + 28);
     }
 
     private static void tooMuch() {
         String twelve = L + L + L + L + L + L + L + L + L + L + L + L;
-        good(twelve);
-        due(twelve + "lesson x", 2, 228);
-        due(twelve + "lessons", 1, 228);
-        good("rule 1;rule 2;rule 3;rule 4;");
-        due("rule 1;rule 2;rule 3;rule 4;rule", 2, 28);
-        good("rule 1" + "+1".repeat(346) + " ;");
+        Check.taken(twelve);
+        Check.refused(twelve + "lesson x", 2, 228);
+        Check.refused(twelve + "lessons", 1, 228);
+        Check.taken("rule 1;rule 2;rule 3;rule 4;");
+        Check.refused("rule 1;rule 2;rule 3;rule 4;rule", 2, 28);
+        Check.taken("rule 1" + "+1".repeat(346) + " ;");
     }
 
     private static void depth() {
-        good("rule (((((1)))));");
-        good("rule (((((not 1+1)))))*(((((2)))));");
-        due("rule ((((((1))))));", 2, 11);
-        due("rule ((((((over))))));", 2, 11);
-        due("rule ((((((bell))))));", 2, 11);
-        due("rule ((((((not 1))))));", 2, 11);
-        due("rule (((((((1)))))));", 2, 11);
-        due("rule ((((((12345))))));", 2, 11);
-        due("rule (((((()))))));", 1, 11);
-        due("rule ((((((+1))))));", 1, 11);
-        due("rule ((((((", 1, 11);
-        due("rule 1+((((((1))))));", 2, 13);
-        good("rule not not not not not not 1;");
-        due("rule not not not not not not not 1;", 2, 29);
-        good("rule not not not not not not (not not not not not not 1);");
-        good("rule not not not not not not 1 and not not not not not not 1;");
-        due("rule 1 or not not not not not not not;", 2, 34);
-        due("rule not not not not not not ;", 1, 29);
-        due("rule not not not not not not bell;", 3, 29);
+        Check.taken("rule (((((1)))));");
+        Check.taken("rule (((((not 1+1)))))*(((((2)))));");
+        Check.refused("rule ((((((1))))));", 2, 11);
+        Check.refused("rule ((((((over))))));", 2, 11);
+        Check.refused("rule ((((((bell))))));", 2, 11);
+        Check.refused("rule ((((((not 1))))));", 2, 11);
+        Check.refused("rule (((((((1)))))));", 2, 11);
+        Check.refused("rule ((((((12345))))));", 2, 11);
+        Check.refused("rule (((((()))))));", 1, 11);
+        Check.refused("rule ((((((+1))))));", 1, 11);
+        Check.refused("rule ((((((", 1, 11);
+        Check.refused("rule 1+((((((1))))));", 2, 13);
+        Check.taken("rule not not not not not not 1;");
+        Check.refused("rule not not not not not not not 1;", 2, 29);
+        Check.taken("rule not not not not not not (not not not not not not 1);");
+        Check.taken("rule not not not not not not 1 and not not not not not not 1;");
+        Check.refused("rule 1 or not not not not not not not;", 2, 34);
+        Check.refused("rule not not not not not not ;", 1, 29);
+        Check.refused("rule not not not not not not bell;", 3, 29);
     }
 
     private static void parts() {
-        due("rule;", 1, 4);
-        due("rule", 1, 4);
-        due("rule bell;", 3, 5);
-        due("rule or;", 3, 5);
-        due("rule rule;", 3, 5);
-        due("rule 1+not 1;", 3, 7);
-        due("rule 1<not 1;", 3, 7);
-        due("rule not or;", 3, 9);
-        due("rule 1 and and 1;", 3, 11);
-        due("rule overs;", 3, 5);
-        due("rule overz;", 3, 5);
-        due("rule overa;", 3, 5);
-        due("rule over{;", 1, 9);
-        due("rule over`;", 1, 9);
-        due("rule 1:;", 1, 6);
-        due("rule 1 bell;", 1, 7);
-        due("rule 1 not;", 1, 7);
-        due("rule over late;", 1, 10);
-        due("rule 1<2<3;", 1, 8);
-        due("rule 1=2<3;", 1, 8);
-        good("rule (1<2)<3;");
-        due("rule *1;", 1, 5);
-        due("rule -1;", 1, 5);
-        due("rule 1+;", 1, 7);
-        due("rule 1//2;", 1, 7);
-        due("rule (1;", 1, 7);
-        due("rule 1);", 1, 6);
-        due("rule ();", 1, 6);
-        due("rule (1", 1, 7);
-        due("rule 1+!;", 1, 7);
-        good("rule over+late+clock+room+people+lesson;");
-    }
-
-    private static void given(String rule, int want) {
-        Check.same("rule " + rule, Check.ruled(rule).day(0, 3), want);
+        Check.refused("rule;", 1, 4);
+        Check.refused("rule", 1, 4);
+        Check.refused("rule bell;", 3, 5);
+        Check.refused("rule or;", 3, 5);
+        Check.refused("rule rule;", 3, 5);
+        Check.refused("rule 1+not 1;", 3, 7);
+        Check.refused("rule 1<not 1;", 3, 7);
+        Check.refused("rule not or;", 3, 9);
+        Check.refused("rule 1 and and 1;", 3, 11);
+        Check.refused("rule overs;", 3, 5);
+        Check.refused("rule overz;", 3, 5);
+        Check.refused("rule overa;", 3, 5);
+        Check.refused("rule over{;", 1, 9);
+        Check.refused("rule over`;", 1, 9);
+        Check.refused("rule 1:;", 1, 6);
+        Check.refused("rule 1 bell;", 1, 7);
+        Check.refused("rule 1 not;", 1, 7);
+        Check.refused("rule over late;", 1, 10);
+        Check.refused("rule 1<2<3;", 1, 8);
+        Check.refused("rule 1=2<3;", 1, 8);
+        Check.taken("rule (1<2)<3;");
+        Check.refused("rule *1;", 1, 5);
+        Check.refused("rule -1;", 1, 5);
+        Check.refused("rule 1+;", 1, 7);
+        Check.refused("rule 1//2;", 1, 7);
+        Check.refused("rule (1;", 1, 7);
+        Check.refused("rule 1);", 1, 6);
+        Check.refused("rule ();", 1, 6);
+        Check.refused("rule (1", 1, 7);
+        Check.refused("rule 1+!;", 1, 7);
+        Check.taken("rule over+late+clock+room+people+lesson;");
     }
 
     private static void values() {
-        given("over", 7);
-        given("clock-99", 1);
-        given("room", 3);
-        given("people", 8);
-        given("lesson", 0);
-        given("late+5", 5);
-        given("1+2*3", 7);
-        given("2*3+1", 7);
-        given("(1+2)*3", 9);
-        given("8-3-2", 3);
-        given("24/4/2", 3);
-        given("24/4*2", 12);
-        given("10+(0-7)/2", 7);
-        given("10-7/2", 7);
-        given("5/0+3", 3);
-        given("0/0+3", 3);
-        given("0-5", 0);
-        given("60", 60);
-        given("61", 60);
-        given("9999", 60);
-        given("1<2", 1);
-        given("2<2", 0);
-        given("2=2", 1);
-        given("2=3", 0);
-        given("1+1=2", 1);
-        given("1<1+1", 1);
-        given("not 0", 1);
-        given("not 5", 0);
-        given("not not 5", 1);
-        given("not 0+1", 0);
-        given("not 1=2", 1);
-        given("(not 0)+1", 2);
-        given("3 and 2", 1);
-        given("3 and 0", 0);
-        given("0-3 or 0", 1);
-        given("0 or 0", 0);
-        given("1 or 1 and 0", 1);
-        given("(1 or 1) and 0", 0);
-        given("not 0 and 0", 0);
-        given("not (0 and 0)", 1);
-        given("not 1 or 1", 1);
-        given("(9999*9999*9999<0)*2", 9999 * 9999 * 9999 < 0 ? 2 : 0);
-        given("9999*9999*9999/9999/9999+40", 9999 * 9999 * 9999 / 9999 / 9999 + 40);
-        given("(over=7 and people<9)*4+(room=9)*50", 4);
+        Check.given("over", 7);
+        Check.given("clock-99", 1);
+        Check.given("room", 3);
+        Check.given("people", 8);
+        Check.given("lesson", 0);
+        Check.given("late+5", 5);
+        Check.given("1+2*3", 7);
+        Check.given("2*3+1", 7);
+        Check.given("(1+2)*3", 9);
+        Check.given("8-3-2", 3);
+        Check.given("24/4/2", 3);
+        Check.given("24/4*2", 12);
+        Check.given("10+(0-7)/2", 7);
+        Check.given("10-7/2", 7);
+        Check.given("5/0+3", 3);
+        Check.given("0/0+3", 3);
+        Check.given("0-5", 0);
+        Check.given("60", 60);
+        Check.given("61", 60);
+        Check.given("9999", 60);
+        Check.given("1<2", 1);
+        Check.given("2<2", 0);
+        Check.given("2=2", 1);
+        Check.given("2=3", 0);
+        Check.given("1+1=2", 1);
+        Check.given("1<1+1", 1);
+        Check.given("not 0", 1);
+        Check.given("not 5", 0);
+        Check.given("not not 5", 1);
+        Check.given("not 0+1", 0);
+        Check.given("not 1=2", 1);
+        Check.given("(not 0)+1", 2);
+        Check.given("3 and 2", 1);
+        Check.given("3 and 0", 0);
+        Check.given("0-3 or 0", 1);
+        Check.given("0 or 0", 0);
+        Check.given("1 or 1 and 0", 1);
+        Check.given("(1 or 1) and 0", 0);
+        Check.given("not 0 and 0", 0);
+        Check.given("not (0 and 0)", 1);
+        Check.given("not 1 or 1", 1);
+        Check.given("(9999*9999*9999<0)*2", 9999 * 9999 * 9999 < 0 ? 2 : 0);
+        Check.given("9999*9999*9999/9999/9999+40", 9999 * 9999 * 9999 / 9999 / 9999 + 40);
+        Check.given("(over=7 and people<9)*4+(room=9)*50", 4);
     }
 }
