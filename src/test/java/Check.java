@@ -12,6 +12,7 @@ final class Check {
     static final String THREE = "lesson 0 45 40 9 1 20;lesson 50 95 40 0 7 10 all 0;"
         + "lesson 50 95 40 5 2 8 some 1 0 1 limit 3;walk 1;stair 10;";
 
+    private static final int NONE = MarshBells.NONE;
     private static final String DOCUMENT = document();
 
     private static int wrong = 0;
@@ -137,6 +138,30 @@ final class Check {
 
     static String all(MarshBells b) {
         return state(b) + b.count(8) + ' ' + b.count(9) + ' ' + b.count(10) + ' ' + b.count(11);
+    }
+
+    /** What every call that only asks answers now; GAPS are kept by it. */
+    static String answers(MarshBells b) {
+        StringBuilder all = new StringBuilder(state(b)).append("| ");
+        long[] whole = {b.swap(0), b.swap(1), b.last(), b.compare(NONE), b.best(), b.bell(0), b.bell(3), b.fits(0), b.fits(1),
+            b.fits(2), b.streams(), b.clash(0), b.clash(1), b.busiest(0), b.busiest(1), b.idle(), b.pair(0), b.pair(1),
+            b.pause(1, 0), b.pause(1, 1), b.pause(30, 0), b.pause(30, 1), b.on(10, 0), b.on(10, 1), b.on(60, 0), b.on(60, 1)};
+        for (long answer : whole) {
+            all.append(answer).append(' ');
+        }
+        int set = (1 << b.count(0)) - 1 & 0b11111;
+        for (int lesson = 0; lesson < b.count(0); lesson++) {
+            int other = (lesson + 1) % b.count(0);
+            long[] each = {b.chain(lesson, 1), b.chain(lesson, 2), b.far(lesson, 5, 0), b.far(lesson, 90, 1), b.slack(lesson),
+                other == lesson ? 0 : b.reaches(lesson, other), b.gaps(set, lesson, 2), b.gaps(0, lesson, 999), b.gap(lesson),
+                b.chance(lesson, 2, 0), b.chance(lesson, 2, 1), b.mean(lesson, 0), b.mean(lesson, 1), b.room(lesson, 0),
+                b.room(lesson, 1), b.limit(lesson, 0), b.limit(lesson, 1), b.term(5, 9, lesson, 0), b.term(5, 9, lesson, 1),
+                b.term(5, 9, lesson, 2), b.shift(lesson, 0), b.shift(lesson, 1), b.harm(lesson, other), b.harm(other, lesson)};
+            for (long answer : each) {
+                all.append(answer).append(' ');
+            }
+        }
+        return all.toString();
     }
 
     static void end() {

@@ -292,6 +292,9 @@ public final class DaySentencesTest {
             MarshBells b = Check.told("lesson 0 10 1 0 0 1;lesson 0 10 1 1 0 1;lesson 0 10 1 5 0 1;lesson 0 10 1 3 0 1;");
             Check.same("LATE ones", b.count(12), 3);
             Check.same("the latest", b.count(13), 5);
+            MarshBells first = Check.told("lesson 0 10 1 2 0 1;lesson 0 10 1 0 0 1;");
+            Check.same("the first alone", first.count(12), 1);
+            Check.same("the latest is the first", first.count(13), 2);
             MarshBells none = Check.told("lesson 0 10 1 0 0 1;lesson 0 10 10 0 0 1;");
             Check.same("none: LATE ones", none.count(12), 0);
             Check.same("none: the latest", none.count(13), 0);
@@ -537,6 +540,28 @@ public final class DaySentencesTest {
                 int now = i == 0 ? b.count(2) : i == 1 ? b.lesson(0, 9) : i == 2 ? b.lesson(1, 4) : i == 3 ? b.lesson(1, 11) : b.lesson(0, 3);
                 Check.same("undone " + i, now, undone[i]);
             }
+        });
+        Check.sentence("ACTS and what is SEEN are kept as an image", () -> {
+            MarshBells b = Check.told(ROW + "rule 1;");
+            b.become(0, 0, 5);
+            b.become(1, 1, 6);
+            b.see(0, 5);
+            b.see(1, 7);
+            b.image();
+            b.undo();
+            b.undo();
+            b.obey(0);
+            b.become(2, 3, 8);
+            b.forget();
+            b.see(2, 9);
+            b.restore();
+            Check.same("SEEN", b.count(6), 2);
+            Check.same("what is SEEN", b.fits(0), 1);
+            Check.same("the first that fits", b.fits(1), 100 + 7);
+            Check.same("the last ACT as it was", b.undo(), 1);
+            Check.same("its GAP", b.lesson(1, 11), 0);
+            Check.same("the one ahead of it as it was", b.undo(), 0);
+            Check.same("its OVER", b.lesson(0, 3), 4);
         });
         Check.sentence("in place of another one.", () -> {
             MarshBells b = Check.told(ROW);

@@ -339,6 +339,13 @@ public final class SeenSentencesTest {
                 + "lesson 20 30 1 0 4 1 all 0;");
             Check.same("as often", twice.on(10, 1), 198);
             Check.same("one minute", twice.on(11, 1), 0);
+            MarshBells floor = Check.told("walk 9;lesson 0 10 1 0 0 99;lesson 20 30 1 0 4 1 all 0;lesson 20 30 1 0 9 1;"
+                + "lesson 20 90 1 0 5 1 all 2;");
+            for (int minute : new int[] {10, 20, 30, 40}) {
+                Check.same("ways that don't lead over it, " + minute, floor.on(minute, 1), 0);
+            }
+            Check.same("nor is it busy", floor.busiest(0), 0);
+            Check.same("in no minute", floor.busiest(1), NONE);
             MarshBells walked = Check.told("walk 2;stair 5;lesson 0 10 1 0 4 6;lesson 20 30 1 0 5 1 all 0;");
             Check.same("with the walk", walked.on(13, 1), 6);
             Check.same("and no longer", walked.on(14, 1), 0);
@@ -352,6 +359,9 @@ public final class SeenSentencesTest {
             Check.same("alike: the first", b.busiest(1), 10);
             b.become(0, 0, 30);
             Check.same("alike: the first, though told later", b.busiest(1), 13);
+            MarshBells one = Check.told("walk 0;lesson 0 10 1 0 0 1;lesson 10 30 1 0 5 1 all 0;");
+            Check.same("one alone", one.busiest(0), 1);
+            Check.same("one alone in", one.busiest(1), 10);
             MarshBells zero = Check.told("walk 0;lesson 0 1 1 0 0 99;lesson 1 30 1 0 5 1 all 0;");
             Check.same("the first that can be", zero.busiest(1), 1);
             MarshBells late = Check.told("walk 0;lesson 998 999 200 60 0 99;lesson 1 30 1 0 5 1 all 0;");

@@ -151,6 +151,10 @@ public final class TextSentencesTest {
         Check.sentence("words (a .. z, the longest row)", () -> {
             Check.taken("rule over+late+clock+room+people+lesson;");
             Check.refused("walkwalk 1;", 1, 0);
+            for (String near : new String[] {"talk", "wblk", "wack", "wald", "wal", "alk", "walks"}) {
+                Check.refused(near + " 1;", 1, 0);
+            }
+            Check.refused("rule aver;", 3, 5);
             Check.refused("rule overover;", 3, 5);
             Check.refused("rule over`;", 1, 9);
             Check.refused("rule over{;", 1, 9);
@@ -640,6 +644,32 @@ public final class TextSentencesTest {
             Check.feed(b, "lesson 0 5 1 0 0 1 ;");
             Check.same("all of the bytes", b.house(20), 0);
             Check.same("LESSONS", b.count(0), 1);
+        });
+        Check.sentence("are a HOUSE, all anew", () -> {
+            String large = "walk 3;stair 2;rule over+late;rule 60-over;lesson 0 10 10 9 0 9 maybe 0;lesson 5 15 10 9 7 9 all 0 maybe 3;"
+                + "lesson 10 20 10 9 1 9 some 2 1 0 maybe 5 gap 3;lesson 15 25 10 9 8 9 all 2 1 0 limit 5;"
+                + "lesson 20 30 10 9 2 9 some 1 3 2 1 0 gap 7;lesson 25 35 10 9 9 9 all 4 maybe 9;";
+            String[] texts = {"lesson 0 10 10 4 0 1;lesson 10 20 10 0 0 2 all 0;lesson 20 30 10 0 0 3 all 1;", "", large,
+                "lesson 10 20 5 0 3 1;", L + L + L + L + L + L, "walk 0;rule 7;lesson 0 10 10 4 0 1 maybe 5;", "rule 5;rule over;"};
+            MarshBells used = new MarshBells();
+            for (int i = 0; i < 3 * texts.length; i++) {
+                Check.tell(used, large);
+                used.obey(1);
+                used.become(1, 0, 33);
+                Check.answers(used);
+                if (i % 3 == 1) {
+                    Check.tell(used, large + "soup");
+                }
+                String text = texts[i % texts.length];
+                Check.same("house", Check.tell(used, text), 0);
+                MarshBells fresh = Check.told(text);
+                String want = Check.answers(fresh);
+                String got = Check.answers(used);
+                Check.same(text + " behind another: " + got + " for " + want, got.equals(want), true);
+                for (int rule = 0; rule < fresh.count(1); rule++) {
+                    Check.same("RULE " + rule, used.compare(rule), fresh.compare(rule));
+                }
+            }
         });
         Check.sentence("0, or the FAULT (all stays)", () -> {
             MarshBells b = busy();

@@ -110,6 +110,9 @@ public final class TrialSentencesTest {
             Check.same("none by LIMIT", Check.told("lesson 0 10 10 0 0 1;lesson 9 19 10 0 0 1 all 0 limit 1;").reaches(0, 1), NONE);
             // It begins later, but has the time: its END isn't.
             Check.same("its beginning is not its END", Check.told("lesson 0 10 1 0 0 1;lesson 10 20 8 0 0 1 all 0;").reaches(0, 1), 3);
+            MarshBells capped = obeying(ROW + "rule over*20;", 0);
+            Check.same("not 0, where 0 comes as far", capped.far(0, 0, 0), 7);
+            Check.same("but 1", capped.reaches(0, 2), 1);
             MarshBells odd = obeying(LOOSE + "rule over*(lesson=0)*(over<30 or 40<over)+0;", 0);
             odd.become(0, 0, 30);
             Check.same("the least, where fewer do nothing", odd.reaches(0, 1), 11);
@@ -206,6 +209,14 @@ public final class TrialSentencesTest {
             Check.same("each for itself", fork.gaps(7, 3, 0), 4);
             dueGaps("each for itself", fork, 0, 2, 2, 0);
             Check.same("none", fork.gaps(3, 3, 0), NONE);
+            // Those of the set that have nothing to do with it stand between, and behind it.
+            MarshBells apart = Check.told("walk 0;lesson 0 10 10 4 0 1;lesson 0 10 10 4 0 1 gap 9;lesson 10 20 10 0 0 1 all 1 gap 8;"
+                + "lesson 10 20 10 0 0 1 all 0 gap 7;lesson 20 30 10 0 0 1 all 3 gap 6;lesson 20 30 10 0 0 1 all 3 gap 5;");
+            Check.same("beside and behind", apart.gaps(0b101111, 3, 1), 3);
+            dueGaps("beside and behind", apart, 0, 0, 0, 3, 6, 0);
+            Check.same("without itself", apart.gaps(0b100110, 4, 0), 0);
+            dueGaps("without itself", apart, 0, 0, 0, 7, 6, 0);
+            Check.same("GAPS stay", apart.lesson(1, 11) + apart.lesson(5, 11), 9 + 5);
         });
     }
 
@@ -331,9 +342,11 @@ public final class TrialSentencesTest {
             Check.same("last", b.last(), 0);
             Check.same("fits", b.fits(0), 62);
             b.chance(1, 0, 0);
+            Check.same("behind a chance", b.count(7), 12);
             b.mean(1, 0);
+            Check.same("behind a mean", b.count(7), 12);
             b.term(1, 5, 0, 0);
-            Check.same("nor behind chances and terms", b.count(7), 12);
+            Check.same("behind a term", b.count(7), 12);
         });
     }
 
