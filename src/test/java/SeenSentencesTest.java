@@ -121,6 +121,9 @@ public final class SeenSentencesTest {
             MarshBells twelve = Check.told("lesson 0 10 10 1 0 1;".repeat(12));
             twelve.see(11, 30);
             dueFits("the last of all", twelve, 1, 1130, 11);
+            twelve.forget();
+            twelve.see(11, 0);
+            dueFits("the last LESSON by 0 minutes", twelve, 1, 1100, 11);
             MarshBells row = Check.told(ROW);
             row.see(0, 4);
             row.see(1, 6);
@@ -154,6 +157,11 @@ public final class SeenSentencesTest {
             Check.same("in 12", b.streams(), 1);
             b.become(1, 0, 1);
             Check.same("one behind the other", b.streams(), 0);
+            b.undo();
+            b.become(0, 0, 4);
+            Check.same("in 14, the one that is told later being sooner", b.streams(), 1);
+            b.become(0, 0, 5);
+            Check.same("that one gone when the other starts", b.streams(), 0);
             String longer = "walk 1;stair 1;lesson 0 10 1 0 0 3;lesson 0 21 1 0 9 3;lesson 50 60 1 0 9 1 all 0;lesson 50 60 1 0 0 1 all 1;";
             MarshBells walked = Check.told(longer);
             Check.same("with nine rooms to walk", walked.streams(), 1);
@@ -180,6 +188,19 @@ public final class SeenSentencesTest {
             Check.same("two up, three down", b.streams(), 6);
             b.become(1, 0, 1);
             Check.same("a minute later", b.streams(), 0);
+            StringBuilder full = new StringBuilder("walk 0;stair 1;");
+            for (int i = 0; i < 12; i++) {
+                full.append("lesson 0 10 1 0 ").append(i % 2 * 9).append(" 9").append(i == 0 ? "" : " all");
+                for (int k = 1; k <= 6 && k <= i; k++) {
+                    full.append(' ').append(i - k);
+                }
+                full.append(i == 0 ? ";" : " limit 0;");
+            }
+            // Of the ways to lesson i every other one: 1 1 2 2 3 3 3 .. 3, 27 in all, 15 of them up.
+            MarshBells most = Check.told(full.toString());
+            Check.same("of very many", most.streams(), 15 * 12);
+            Check.same("people of very many", most.on(10, 1), 27 * 9);
+            Check.same("the busiest of very many", most.busiest(0), 27 * 9);
         });
         Check.sentence("CROSSING: how many couples of WAYS.", () -> {
             Check.same("none", Check.told(ROW).streams(), 0);
@@ -310,6 +331,10 @@ public final class SeenSentencesTest {
             Check.same("the first then", b.clash(1), 15);
             Check.same("each couple of twelve", Check.told("lesson 0 10 1 0 3 1;".repeat(12)).clash(0), 66);
             Check.same("from minute 0", Check.told("lesson 0 10 1 0 3 1;".repeat(12)).clash(1), 0);
+            MarshBells sooner = Check.told("lesson 20 30 1 0 3 1;lesson 10 20 1 0 3 1;");
+            Check.same("the one that is told later being sooner", sooner.clash(0), 0);
+            sooner.become(1, 0, 1);
+            Check.same("by a minute", sooner.clash(1), 20);
             MarshBells back = Check.told("lesson 50 60 1 0 3 1;lesson 55 60 1 0 3 1;lesson 5 9 1 0 4 1;lesson 4 6 1 0 4 1;");
             Check.same("not the first couple", back.clash(1), 5);
             MarshBells late = Check.told("walk 0;lesson 0 20 1 0 3 1;lesson 5 30 1 0 3 1 all 0;");

@@ -650,7 +650,7 @@ public final class TextSentencesTest {
                 + "lesson 10 20 10 9 1 9 some 2 1 0 maybe 5 gap 3;lesson 15 25 10 9 8 9 all 2 1 0 limit 5;"
                 + "lesson 20 30 10 9 2 9 some 1 3 2 1 0 gap 7;lesson 25 35 10 9 9 9 all 4 maybe 9;";
             String[] texts = {"lesson 0 10 10 4 0 1;lesson 10 20 10 0 0 2 all 0;lesson 20 30 10 0 0 3 all 1;", "", large,
-                "lesson 10 20 5 0 3 1;", L + L + L + L + L + L, "walk 0;rule 7;lesson 0 10 10 4 0 1 maybe 5;", "rule 5;rule over;"};
+                "lesson 10 20 5 0 3 1;", L.repeat(12), "walk 0;rule 7;lesson 0 10 10 4 0 1 maybe 5;", "rule 5;rule over;"};
             MarshBells used = new MarshBells();
             for (int i = 0; i < 3 * texts.length; i++) {
                 Check.tell(used, large);

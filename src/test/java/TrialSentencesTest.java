@@ -217,6 +217,12 @@ public final class TrialSentencesTest {
             Check.same("without itself", apart.gaps(0b100110, 4, 0), 0);
             dueGaps("without itself", apart, 0, 0, 0, 7, 6, 0);
             Check.same("GAPS stay", apart.lesson(1, 11) + apart.lesson(5, 11), 9 + 5);
+            MarshBells ahead = Check.told("walk 0;lesson 0 10 10 4 0 1;lesson 0 10 10 4 0 1 gap 9;lesson 10 20 10 0 0 1 all 0;");
+            Check.same("right behind one that has nothing to do with it", ahead.gaps(0b110, 2, 1), 3);
+            dueGaps("right behind it", ahead, 0, 0, 3);
+            MarshBells first = Check.told("lesson 0 10 10 4 0 1 gap 9;lesson 0 10 10 4 0 1;");
+            Check.same("the first has nothing to do with it", first.gaps(0b01, 1, 4), 0);
+            dueGaps("its GAP is anew all the same", first, 0, 0);
         });
     }
 
@@ -413,9 +419,9 @@ public final class TrialSentencesTest {
             MarshBells above = Check.told("walk 0;lesson 0 10 10 0 7 3;lesson 10 20 10 0 2 2 all 0;");
             Check.same("all above alike: the least of them", above.room(1, 0), 5);
             Check.same("nothing stays", above.lesson(1, 4), 2);
-            MarshBells less = obeying("walk 0;lesson 0 10 10 0 0 1;rule 9-room;", 0);
+            MarshBells less = obeying("walk 0;lesson 0 10 10 0 0 1;rule 20-room;", 0);
             Check.same("by a RULE the greatest", less.room(0, 0), 9);
-            Check.same("LOST by it", less.room(0, 1), 0);
+            Check.same("LOST by it", less.room(0, 1), 11);
         });
         Check.sentence("THE ROOM (what 0), LOST then (1). NoSuchElementException: also another what.", () -> {
             MarshBells b = Check.told(ROW);
@@ -429,9 +435,9 @@ public final class TrialSentencesTest {
             Check.same("not to wait at all", b.limit(1, 0), 0);
             Check.same("LOST then", b.limit(1, 1), 4);
             Check.same("alike: the least", b.limit(0, 0), 0);
-            MarshBells longest = obeying("walk 0;lesson 0 99 9 0 0 1;lesson 0 120 1 0 3 2 all 0;rule lesson*(99-late);", 0);
+            MarshBells longest = obeying("walk 0;lesson 0 150 9 0 0 1;lesson 0 220 1 0 3 2 all 0;rule lesson*(120-late);", 0);
             Check.same("99", longest.limit(1, 0), 99);
-            Check.same("LOST by 99", longest.limit(1, 1), 0);
+            Check.same("LOST by 99", longest.limit(1, 1), 2 * 21);
             MarshBells middle = obeying("walk 0;lesson 0 99 9 0 0 1;lesson 0 120 1 0 3 2 all 0;rule lesson*(50-late)*(50-late);", 0);
             Check.same("between", middle.limit(1, 0), 50);
             Check.same("nothing stays", middle.lesson(1, 9), 99);
@@ -456,6 +462,10 @@ public final class TrialSentencesTest {
                 + "lesson 10 20 10 0 0 2 all 1;lesson 20 30 10 0 0 3 all 2;").last(), 1);
             MarshBells b = obeying("lesson 0 10 1 9 0 1;lesson 0 10 1 3 0 1;rule 20-over;", 0);
             Check.same("by a RULE", b.last(), 1);
+            MarshBells nil = obeying("lesson 0 10 1 5 0 1;lesson 0 10 1 5 0 2;rule 9-9*(over=0);", 0);
+            Check.same("0 itself", nil.last(), 1);
+            Check.same("0 itself, of two", nil.pair(1), 0);
+            Check.same("0 itself, of a bell", nil.bell(0), 27);
         });
     }
 
@@ -505,6 +515,9 @@ public final class TrialSentencesTest {
             Check.same("0", b.bell(0), 60 + 590);
             Check.same("by a RULE it may be below 0", Check.ruled("60-over").bell(0), -7 * 8);
             Check.same("a RULE that doesn't ask", Check.ruled("5").bell(0), 0);
+            MarshBells stair = Check.told("walk 0;stair 1;lesson 0 10 10 4 0 5;lesson 10 20 10 0 9 2 all 0;");
+            Check.same("over a slow STAIR", stair.bell(0), 5 * 4 + 2 * 9 - 2 * 5);
+            Check.same("over a slow STAIR, harm", stair.harm(0, 1), 4);
             Check.same("without LESSONS", new MarshBells().bell(0), 0);
         });
         Check.sentence("IllegalArgumentException: minutes are not 0 to 60.", () -> {
@@ -518,23 +531,65 @@ public final class TrialSentencesTest {
 
     private static void nothingStays() {
         Check.sentence("Nothing is promised beyond the answers and state changes described above", () -> {
-            MarshBells b = obeying(ROW + "rule over+late;", 0);
-            String before = Check.all(b);
-            b.far(0, 120, 0);
-            b.reaches(0, 2);
-            b.slack(0);
-            b.gaps(7, 2, 0);
-            b.gaps(7, 2, 2);
-            b.chance(2, 0, 0);
-            b.mean(2, 0);
-            b.swap(0);
-            b.room(1, 0);
-            b.limit(1, 0);
-            b.last();
-            b.compare(NONE);
-            b.best();
-            b.bell(0);
-            Check.same(before + " is now " + Check.all(b), Check.all(b).equals(before), true);
+            String lessons = "walk 1;stair 3;lesson 0 10 10 4 0 5 maybe 3;lesson 0 10 10 7 6 2 maybe 0;lesson 10 20 10 3 1 4 all 0 1;"
+                + "lesson 12 25 10 1 7 3 some 1 1 0 gap 2;";
+            for (String rules : new String[] {"rule over+late;", "rule 0;rule over;", "rule 60;rule 59;"}) {
+                for (int x = 0; x < 32; x++) {
+                    MarshBells b = seeing(lessons + rules);
+                    String before = Check.all(b);
+                    ask(b, x);
+                    Check.same("nothing is another behind call " + x, Check.all(b).equals(before), true);
+                    for (int y = 0; y < 32; y++) {
+                        MarshBells alone = seeing(lessons + rules);
+                        MarshBells behind = seeing(lessons + rules);
+                        ask(behind, x);
+                        Check.same("call " + y + " behind call " + x, ask(behind, y), ask(alone, y));
+                    }
+                }
+            }
         });
+    }
+
+    private static MarshBells seeing(String text) {
+        MarshBells b = obeying(text, 0);
+        b.see(0, 4);
+        return b;
+    }
+
+    private static long ask(MarshBells b, int call) {
+        switch (call) {
+            case 0: return b.far(0, 120, 0);
+            case 1: return b.far(1, 9, 1);
+            case 2: return b.reaches(0, 2);
+            case 3: return b.slack(0);
+            case 4: return b.gaps(15, 3, 2);
+            case 5: return b.gaps(12, 2, 0);
+            case 6: return b.chance(2, 5, 0);
+            case 7: return b.mean(3, 0);
+            case 8: return b.swap(0);
+            case 9: return b.swap(1);
+            case 10: return b.room(2, 0);
+            case 11: return b.room(3, 1);
+            case 12: return b.limit(2, 0);
+            case 13: return b.limit(3, 1);
+            case 14: return b.last();
+            case 15: return b.compare(NONE);
+            case 16: return b.best();
+            case 17: return b.bell(2);
+            case 18: return b.fits(0);
+            case 19: return b.streams();
+            case 20: return b.term(3, 7, 2, 0);
+            case 21: return b.on(18, 0);
+            case 22: return b.on(18, 1);
+            case 23: return b.clash(0);
+            case 24: return b.busiest(1);
+            case 25: return b.idle();
+            case 26: return b.shift(2, 0);
+            case 27: return b.shift(1, 1);
+            case 28: return b.harm(0, 3);
+            case 29: return b.pair(0);
+            case 30: return b.pause(5, 0);
+            default: return b.pause(2, 1);
+        }
     }
 }
