@@ -360,6 +360,15 @@ public final class SeenSentencesTest {
             for (int[] p : people) {
                 Check.same("in " + p[0], b.on(p[0], 1), p[1]);
             }
+            Check.same("couples of ways", b.streams(), 1);
+            b.become(3, 2, 9);
+            Check.same("one way less: people", b.on(13, 1), 0);
+            Check.same("one way less: couples", b.streams(), 0);
+            Check.same("one way less: the most", b.busiest(0), 3);
+            Check.same("one way less: in", b.busiest(1), 10);
+            b.become(2, 2, 4);
+            Check.same("no way is left: people", b.on(10, 1), 0);
+            Check.same("no way is left: in", b.busiest(1), NONE);
             MarshBells twice = Check.told("walk 0;lesson 0 10 1 0 0 99;lesson 20 30 1 0 9 1 all 0;lesson 20 30 1 0 8 1 all 0;"
                 + "lesson 20 30 1 0 4 1 all 0;");
             Check.same("as often", twice.on(10, 1), 198);
