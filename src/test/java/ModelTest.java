@@ -11,14 +11,12 @@ import java.util.Random;
 /** Runs of calls by a seed on MarshBells and on Model: every answer and every exception must be the same. */
 public final class ModelTest {
     private static final int RUNS = Integer.getInteger("runs", 1500);
-    private static final String[] WORDS = {"lesson", "all", "some", "limit", "maybe", "gap", "walk", "stair", "rule",
-        "or", "and", "not", "over", "late", "clock", "room", "people", "bell", "x"};
-    private static final String[] SIGNS = {";", "(", ")", "+", "-", "*", "/", "<", "=", "!", "A", "\t", "\n", " "};
     private static final List<Method> CALLS = calls();
     private static int wrong = 0;
     private static long asked = 0;
 
     private final Random random;
+    private final SeededTexts texts;
     private final MarshBells bells = new MarshBells();
     private final Model model = new Model();
     private final List<String> log = new ArrayList<>();
@@ -26,6 +24,7 @@ public final class ModelTest {
 
     private ModelTest(long seed) {
         random = new Random(seed);
+        texts = new SeededTexts(random);
     }
 
     public static void main(String[] args) {
@@ -49,8 +48,9 @@ public final class ModelTest {
     private void run(int seed) {
         int houses = 1 + random.nextInt(3);
         for (int h = 0; h < houses; h++) {
-            String text = house();
-            if (random.nextInt(3) == 0) text = spoilt(text);
+            String text = texts.house();
+            if (random.nextInt(5) == 0) text = texts.spoiltBySigns(text);
+            if (random.nextInt(5) == 0) text = texts.spoiltByTokens(text);
             tell(text);
             if (random.nextInt(8) == 0) call(method("house"), new Object[] {random.nextInt(4) - 2});
             lessons = model.count(0);
@@ -166,82 +166,5 @@ public final class ModelTest {
         } catch (IllegalAccessException e) {
             throw new IllegalStateException(e);
         }
-    }
-
-    // ---------------------------------------------------------------- texts
-
-    private String house() {
-        StringBuilder text = new StringBuilder();
-        int many = random.nextInt(10) == 0 ? random.nextInt(2) : 1 + random.nextInt(12);
-        if (random.nextInt(3) > 0) text.append("walk ").append(random.nextInt(10)).append(';');
-        if (random.nextBoolean()) text.append("stair ").append(1 + random.nextInt(random.nextBoolean() ? 10 : 99)).append(';');
-        int rules = random.nextInt(5);
-        for (int r = 0; r < rules; r++) {
-            String rule = "rule " + expr(random.nextInt(4)) + ";";
-            if (rule.length() < 110) text.append(rule);
-        }
-        for (int i = 0; i < many; i++) {
-            String line = line(i);
-            if (text.length() + line.length() <= 700) text.append(line);
-            else break;
-        }
-        return text.toString();
-    }
-
-    private String line(int i) {
-        int from = random.nextInt(6) == 0 ? random.nextInt(999) : Math.min(900, i / 2 * 50 + random.nextInt(20));
-        int to = Math.min(999, from + 1 + random.nextInt(60));
-        StringBuilder line = new StringBuilder("lesson " + from + " " + to + " " + (1 + random.nextInt(80)) + " "
-            + (random.nextInt(3) == 0 ? 0 : random.nextInt(random.nextInt(4) == 0 ? 61 : 12)) + " " + random.nextInt(10)
-            + " " + (1 + random.nextInt(random.nextBoolean() ? 99 : 9)));
-        if (i > 0 && random.nextInt(4) > 0) line.append(waits(i));
-        if (random.nextInt(3) == 0) line.append(" limit ").append(random.nextInt(random.nextBoolean() ? 100 : 12));
-        if (random.nextInt(3) == 0) line.append(" maybe ").append(random.nextInt(11));
-        if (random.nextInt(4) == 0) line.append(" gap ").append(random.nextInt(random.nextBoolean() ? 31 : 6));
-        return line.append(random.nextInt(10) == 0 ? " ;\n" : ";").toString();
-    }
-
-    private String waits(int i) {
-        List<Integer> others = new ArrayList<>();
-        for (int o = 0; o < i; o++) others.add(o);
-        java.util.Collections.shuffle(others, random);
-        int many = 1 + random.nextInt(Math.min(i, 6));
-        StringBuilder row = new StringBuilder(random.nextBoolean() ? " all" : " some " + (1 + random.nextInt(many)));
-        for (int k = 0; k < many; k++) row.append(' ').append(others.get(k));
-        return row.toString();
-    }
-
-    private String expr(int depth) {
-        if (depth == 0) {
-            return random.nextBoolean() ? String.valueOf(random.nextInt(random.nextBoolean() ? 10 : 9999))
-                : Model.VALUES.get(random.nextInt(6));
-        }
-        String[] joins = {"+", "-", "*", "/", "<", "=", " and ", " or "};
-        switch (random.nextInt(5)) {
-            case 0: return "(" + expr(depth - 1) + ")";
-            case 1: return "(not " + expr(depth - 1) + ")";
-            case 2: return "(" + expr(depth - 1) + joins[random.nextInt(8)] + expr(depth - 1) + ")";
-            case 3: return expr(depth - 1) + joins[random.nextInt(4)] + expr(depth - 1);
-            default: return expr(depth - 1) + joins[random.nextInt(8)] + expr(depth - 1);
-        }
-    }
-
-    private String spoilt(String text) {
-        StringBuilder s = new StringBuilder(text);
-        int times = 1 + random.nextInt(3);
-        for (int t = 0; t < times && s.length() > 0; t++) {
-            int at = random.nextInt(s.length());
-            switch (random.nextInt(7)) {
-                case 0: s.deleteCharAt(at); break;
-                case 1: s.insert(at, SIGNS[random.nextInt(SIGNS.length)]); break;
-                case 2: s.insert(at, " " + WORDS[random.nextInt(WORDS.length)] + " "); break;
-                case 3: s.insert(at, random.nextInt(10)); break;
-                case 4: s.setLength(at); break;
-                case 5: s.delete(at, Math.min(s.length(), at + random.nextInt(8))); break;
-                default: s.insert(at, text.substring(random.nextInt(text.length()))); break;
-            }
-        }
-        s.setLength(Math.min(700, s.length()));
-        return s.toString();
     }
 }
